@@ -1,0 +1,56 @@
+/** Compares answers with those that are due, prints the ones that differ, and ends the test. */
+final class Check {
+    interface Call {
+        long answer();
+    }
+
+    private int wrong = 0;
+    private int compared = 0;
+
+    /** A boolean answer, as a number. */
+    static long bit(boolean answer) {
+        return answer ? 1 : 0;
+    }
+
+    void due(String call, long got, long want) {
+        compared++;
+        if (got != want) {
+            wrong++;
+            System.out.println(call + " answered " + got + ", due is " + want);
+        }
+    }
+
+    /** The call must throw exactly that class, no class below it. */
+    void dueThrow(String call, Class<? extends RuntimeException> want, Call made) {
+        compared++;
+        String got;
+        try {
+            got = "answered " + made.answer();
+        } catch (RuntimeException e) {
+            got = e.getClass() == want ? null : "threw " + e.getClass().getName();
+        }
+        if (got != null) {
+            wrong++;
+            System.out.println(call + " " + got + ", due is " + want.getName());
+        }
+    }
+
+    void dueArgument(String call, Call made) {
+        dueThrow(call, IllegalArgumentException.class, made);
+    }
+
+    void dueIndex(String call, Call made) {
+        dueThrow(call, IndexOutOfBoundsException.class, made);
+    }
+
+    void dueState(String call, Call made) {
+        dueThrow(call, IllegalStateException.class, made);
+    }
+
+    void end() {
+        System.out.println(compared + " answers compared, " + wrong + " not as due");
+        if (wrong != 0 || compared == 0) {
+            System.exit(1);
+        }
+    }
+}
