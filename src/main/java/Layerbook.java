@@ -614,13 +614,11 @@ public final class Layerbook {
         private Layer first;
         private Layer last;
 
-        @Override
         void empty() {
             first = null;
             last = null;
         }
 
-        @Override
         void bring(Movement receipt) {
             Layer added = receipt.layer;
             added.fill(receipt.quantity, receipt.cost, null);
@@ -632,7 +630,6 @@ public final class Layerbook {
             last = added;
         }
 
-        @Override
         long take(int wanted) {
             long taken = 0;
             int open = wanted;
@@ -648,7 +645,6 @@ public final class Layerbook {
             return taken;
         }
 
-        @Override
         void bringBack(Movement revaluation) {
             Layer added = revaluation.layer;
             added.fill(revaluation.quantity, revaluation.cost, first);
@@ -658,7 +654,6 @@ public final class Layerbook {
             }
         }
 
-        @Override
         long absorb(Movement receipt, int part) {
             Layer layer = receipt.layer;
             long kept = portion(receipt, part, layer.units);
@@ -666,7 +661,6 @@ public final class Layerbook {
             return kept;
         }
 
-        @Override
         long worth() {
             long worth = 0;
             for (Layer layer = first; layer != null; layer = layer.next) {
@@ -696,36 +690,30 @@ public final class Layerbook {
     private static final class MovingAverage extends Valuation {
         private long worth;
 
-        @Override
         void empty() {
             worth = 0;
         }
 
-        @Override
         void bring(Movement receipt) {
             worth += receipt.cost;
         }
 
-        @Override
         long take(int wanted) {
             long taken = units > 0 ? worth * wanted / units : 0;
             worth -= taken;
             return taken;
         }
 
-        @Override
         void bringBack(Movement revaluation) {
             worth += revaluation.cost;
         }
 
-        @Override
         long absorb(Movement receipt, int part) {
             long kept = portion(receipt, part, Math.min(units, receipt.quantity));
             worth += kept;
             return kept;
         }
 
-        @Override
         long worth() {
             return worth;
         }

@@ -216,6 +216,9 @@ public final class PostingTest {
         check.due("land: only one of them", x.land(1, 9, Layerbook.BY_QUANTITY, 2), 6);
         check.due("land: it gets all", x.partOf(6, 1), 9);
         check.due("land: the others get nothing", x.partOf(6, 0), 0);
+        x.receive(1, 3, 1, 1);
+        check.due("land: the least sum of the basis, 1", x.land(1, 8, Layerbook.BY_COST, 1 << 7), 8);
+        check.due("land: all falls on it", x.partOf(8, 7), 8);
         check.due("land: what was received of item 0", x.received(0, 1), 100 + 60 + 25 + 30);
         check.due("land: the value of item 1", x.value(1, 1, false), 300 + 30 + 75 + 15 + 9);
         check.due("land: the average's value of item 2", x.value(2, 1, true), 10 + 55);
@@ -367,7 +370,13 @@ public final class PostingTest {
         y.issue(5, 0, 3);
         check.dueState("cancel: the issues need 4 of 6", () -> y.cancel(0));
         y.receive(5, 0, 3, 1);
-        check.dueState("cancel: on the same day a greater number is behind", () -> y.cancel(2));
+        check.dueState("cancel: a receipt behind the issues does not help", () -> y.cancel(2));
+        Layerbook sameDay = new Layerbook();
+        sameDay.receive(5, 0, 3, 1);
+        sameDay.issue(5, 0, 3);
+        sameDay.receive(5, 0, 3, 1);
+        check.dueState("cancel: on the same day the issue is ahead of the second receipt", () -> sameDay.cancel(0));
+        check.due("cancel: the second receipt", sameDay.cancel(2), 2);
     }
 
     /** Promise 7. */
