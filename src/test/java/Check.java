@@ -20,6 +20,17 @@ final class Check {
         }
     }
 
+    /** The call must answer; if it throws, that is told as a wrong answer. */
+    void due(String call, Call made, long want) {
+        try {
+            due(call, made.answer(), want);
+        } catch (RuntimeException e) {
+            compared++;
+            wrong++;
+            System.out.println(call + " threw " + e.getClass().getName() + ", due is " + want);
+        }
+    }
+
     /** The call must throw exactly that class, no class below it. */
     void dueThrow(String call, Class<? extends RuntimeException> want, Call made) {
         compared++;
