@@ -4,8 +4,30 @@ final class Check {
         long answer();
     }
 
+    /** The longest test needs some twenty seconds. */
+    private static final int MOST_SECONDS = 300;
+
     private int wrong = 0;
     private int compared = 0;
+
+    Check() {
+        limitTime();
+    }
+
+    /** A loop without end makes the test fail, as a wrong answer does. */
+    static void limitTime() {
+        Thread limit = new Thread(() -> {
+            try {
+                Thread.sleep(1000L * MOST_SECONDS);
+            } catch (InterruptedException e) {
+                return;
+            }
+            System.out.println("the test did not end within " + MOST_SECONDS + " seconds");
+            Runtime.getRuntime().halt(1);
+        });
+        limit.setDaemon(true);
+        limit.start();
+    }
 
     /** A boolean answer, as a number. */
     static long bit(boolean answer) {
@@ -13,8 +35,12 @@ final class Check {
     }
 
     void due(String call, long got, long want) {
+        due(call, Long.toString(got), Long.toString(want));
+    }
+
+    void due(String call, String got, String want) {
         compared++;
-        if (got != want) {
+        if (!got.equals(want)) {
             wrong++;
             System.out.println(call + " answered " + got + ", due is " + want);
         }

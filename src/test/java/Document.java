@@ -15,6 +15,7 @@ final class Document {
     /** By promise; row 0 is what stands ahead of promise 1. */
     private final List<List<String>> lines = rows();
     private final List<List<String>> named = rows();
+    private final List<String> face = new ArrayList<>();
 
     Document() throws IOException {
         int promise = 0;
@@ -24,6 +25,9 @@ final class Document {
                 break;
             }
             code ^= line.startsWith("```");
+            if (code && line.startsWith("    public ")) {
+                face.add(line.trim());
+            }
             if (line.startsWith("## Promise ")) {
                 promise = Integer.parseInt(line.substring(11, line.indexOf(':')));
             } else if (!code && !line.isBlank() && !line.startsWith("#") && !line.startsWith("```")) {
@@ -38,6 +42,16 @@ final class Document {
             rows.add(new ArrayList<>());
         }
         return rows;
+    }
+
+    /** The lines of the public face, without the class itself. */
+    List<String> face() {
+        return face;
+    }
+
+    /** What stands ahead of promise 1. */
+    List<String> ahead() {
+        return lines.get(0);
     }
 
     /** Notes that a test is for these words, and tells whether the promise has them. */

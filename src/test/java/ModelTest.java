@@ -29,6 +29,7 @@ public final class ModelTest {
     }
 
     public static void main(String[] args) {
+        Check.limitTime();
         int[] answers = new int[KINDS];
         int[] thrown = new int[KINDS];
         for (int run = 0; run < RUNS; run++) {
